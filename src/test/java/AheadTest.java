@@ -1,0 +1,170 @@
+import java.util.NoSuchElementException;
+
+/** Promises 40 and 41: waitFor and isConsistent. */
+final class AheadTest {
+    public static void main(String[] args) {
+        promise40WaitFor();
+        promise40ComesTrue();
+        promise40NoSuchRequest();
+        promise40Dropped();
+        promise40Within500Minutes();
+        promise40ChangesNothing();
+        promise41IsConsistent();
+        Check.end("AheadTest");
+    }
+
+    private static void promise40WaitFor() {
+        MineHoist x = Scenes.quiet();
+        x.sendDown(1, 5);
+        x.sendDown(3, 5);
+        x.callUp(1, 5);
+        Check.due("waitFor the first: 1 + 0 + 1", 2, x.waitFor(0));
+        Check.due("waitFor the second: 1 + 1 + 4 more", 8, x.waitFor(1));
+        Check.due("waitFor the third: 1 + 3 + 1 more", 13, x.waitFor(2));
+        x.pass(1);
+        Check.due("waitFor the present trip", 1, x.waitFor(0));
+        Check.due("waitFor the second a minute later", 7, x.waitFor(1));
+        x.setSpeed(310);
+        Check.due("waitFor with another speed: 1 and 1 + 1 + 1", 4, x.waitFor(1));
+        x.cancel(1);
+        Check.due("waitFor the third without the second: 1 and 1 + 0 + 1", 3, x.waitFor(2));
+        MineHoist y = Scenes.blasted();
+        y.hoistOre(1);
+        y.sendDown(2, 5);
+        Check.due("waitFor ore behind people: 4 and 1 + 2 + 1", 8, y.waitFor(0));
+        MineHoist z = Scenes.alarmed();
+        z.setLimit(900);
+        Check.due("waitFor behind no flight: 1 + 1 + 1", 3, z.waitFor(1));
+    }
+
+    private static void promise40ComesTrue() {
+        for (int request = 0; request < 4; request++) {
+            MineHoist x = Scenes.blasted();
+            x.sendDown(2, 8);
+            x.sendDown(3, 8);
+            x.callUp(2, 3);
+            x.hoistOre(1);
+            int minutes = x.waitFor(request);
+            x.pass(minutes - 1);
+            Check.due("waitFor(" + request + ") a minute before its end", 1, x.waitFor(request));
+            Check.due("doneCount a minute before the end of " + request, request, x.doneCount());
+            x.pass(1);
+            Check.due("doneCount at the end of " + request, request + 1, x.doneCount());
+        }
+    }
+
+    private static void promise40NoSuchRequest() {
+        for (int request : new int[] {-1, 8, Integer.MIN_VALUE, Integer.MAX_VALUE}) {
+            Check.refused("waitFor(" + request + ")", NoSuchElementException.class, Scenes::crowded,
+                    m -> m.waitFor(request));
+        }
+        Check.refused("waitFor(0) of an empty mine", NoSuchElementException.class, Scenes::empty,
+                m -> m.waitFor(0));
+        Check.refused("waitFor(-1) in a flight", NoSuchElementException.class, () -> {
+            MineHoist x = Scenes.alarmed();
+            x.pass(1);
+            return x;
+        }, m -> m.waitFor(-1));
+        Check.refused("waitFor a canceled one", NoSuchElementException.class, () -> {
+            MineHoist x = Scenes.crowded();
+            x.cancel(7);
+            return x;
+        }, m -> m.waitFor(7));
+        Check.refused("waitFor one whose trip has ended", NoSuchElementException.class, Scenes::peopleBelow,
+                m -> m.waitFor(0));
+        Check.refused("waitFor a dropped one", NoSuchElementException.class, () -> {
+            MineHoist x = Scenes.quiet();
+            x.callUp(1, 1);
+            x.pass(1);
+            return x;
+        }, m -> m.waitFor(0));
+    }
+
+    private static void promise40Dropped() {
+        Check.refused("waitFor one up from nobody", UnsupportedOperationException.class, () -> {
+            MineHoist x = Scenes.quiet();
+            x.callUp(1, 1);
+            return x;
+        }, m -> m.waitFor(0));
+        Check.refused("waitFor ore that is not there", UnsupportedOperationException.class, () -> {
+            MineHoist x = Scenes.goingDown();
+            x.hoistOre(1);
+            return x;
+        }, m -> m.waitFor(1));
+        Check.refused("waitFor one down to a closed level", UnsupportedOperationException.class, () -> {
+            MineHoist x = Scenes.goingDown();
+            x.setLimit(1000);
+            x.sendDown(1, 1);
+            x.blast(1, 1);
+            return x;
+        }, m -> m.waitFor(1));
+        Check.refused("waitFor one that the alarm will drop", UnsupportedOperationException.class,
+                Scenes::alarmed, m -> m.waitFor(1));
+        MineHoist y = Scenes.goingDown();
+        y.callUp(2, 12);
+        Check.due("waitFor one up from where somebody will be: 3 and 1 + 0 + 3", 7, y.waitFor(1));
+        MineHoist z = Scenes.quiet();
+        z.setLimit(1000);
+        z.setSpeed(10);
+        z.sendDown(3, 1);
+        z.sendDown(1, 1);
+        z.blast(1, 1);
+        Check.due("waitFor one to a level that is open by then: 32 and 1 + 31 + 10", 74, z.waitFor(1));
+    }
+
+    /** The first trip is 1 + 200 minutes; the second 1 + 200 and the way down. */
+    private static MineHoist deep(int depth) {
+        MineHoist x = new MineHoist();
+        x.addLevel(depth, 100, 1, 0);
+        x.addLevel(2000, 100, 1, 0);
+        x.setSpeed(10);
+        x.hire(2);
+        x.sendDown(2, 1);
+        x.sendDown(1, 1);
+        return x;
+    }
+
+    private static void promise40Within500Minutes() {
+        Check.due("waitFor of 500 minutes", 500, deep(980).waitFor(1));
+        Check.refused("waitFor of 501 minutes", UnsupportedOperationException.class, () -> deep(981),
+                m -> m.waitFor(1));
+        MineHoist x = deep(981);
+        x.pass(1);
+        Check.due("waitFor of 501 minutes a minute later", 500, x.waitFor(1));
+        Check.due("waitFor of the first", 200, x.waitFor(0));
+    }
+
+    private static void promise40ChangesNothing() {
+        MineHoist x = Scenes.alarmed();
+        x.cancel(1);
+        x.callUp(1, 3);
+        x.setLimit(900);
+        MineHoist y = Scenes.alarmed();
+        y.cancel(1);
+        y.callUp(1, 3);
+        y.setLimit(900);
+        for (int i = 0; i < 5; i++) {
+            Check.due("waitFor again and again", 2, x.waitFor(2));
+        }
+        Check.due("the state after waitFor", Snapshot.of(y), Snapshot.of(x));
+        x.pass(4);
+        y.pass(4);
+        Check.due("the state 4 minutes after waitFor", Snapshot.of(y), Snapshot.of(x));
+        Check.due("the settings after waitFor", Snapshot.ofSettings(y), Snapshot.ofSettings(x));
+    }
+
+    private static void promise41IsConsistent() {
+        Check.due("isConsistent of an empty mine", true, Scenes.empty().isConsistent());
+        Check.due("isConsistent at 5000", true, Scenes.late(5000).isConsistent());
+        MineHoist x = Scenes.six();
+        for (int step = 0; step < 90; step++) {
+            x.setFan(step * 137 % 1001);
+            x.setDoor(1 + step % 6, step % 4 != 0);
+            if (!x.isClosed(1 + step % 5)) {
+                x.blast(1 + step % 5, 1 + step % 20);
+            }
+            x.pass(1 + step % 7);
+            Check.due("isConsistent, step " + step, true, x.isConsistent());
+        }
+    }
+}
