@@ -7,6 +7,7 @@ final class AheadTest {
         promise40ComesTrue();
         promise40NoSuchRequest();
         promise40Dropped();
+        promise40ClosedForThirtyMinutes();
         promise40Within500Minutes();
         promise40ChangesNothing();
         promise41IsConsistent();
@@ -110,6 +111,28 @@ final class AheadTest {
         z.sendDown(1, 1);
         z.blast(1, 1);
         Check.due("waitFor one to a level that is open by then: 32 and 1 + 31 + 10", 74, z.waitFor(1));
+    }
+
+    /** The first trip ends 30 minutes after the blast, so that the level is open for the second; or 29 after it. */
+    private static void promise40ClosedForThirtyMinutes() {
+        MineHoist x = closedFor(290);
+        Check.due("waitFor the second when the level is open: 30 and 1 + 29 + 10", 70, x.waitFor(1));
+        Check.refused("waitFor the second when the level is closed", UnsupportedOperationException.class,
+                () -> closedFor(280), m -> m.waitFor(1));
+    }
+
+    private static MineHoist closedFor(int depth) {
+        MineHoist x = new MineHoist();
+        x.addLevel(100, 100, 1, 0);
+        x.addLevel(depth, 100, 1, 0);
+        x.setSpeed(10);
+        x.setLimit(1000);
+        x.hire(2);
+        x.pass(40);
+        x.sendDown(2, 1);
+        x.sendDown(1, 1);
+        x.blast(1, 1);
+        return x;
     }
 
     /** The first trip is 1 + 200 minutes; the second 1 + 200 and the way down. */

@@ -52,6 +52,13 @@ final class GasTest {
         z.setFan(50);
         z.pass(1);
         Check.due("gasOf with as much air as the size", 0, z.gasOf(1));
+        MineHoist least = one(1, 2, 0);
+        least.pass(1);
+        Check.due("gasOf of the least size", 2, least.gasOf(1));
+        Check.due("gasShare of the least size", 2000, least.gasShare(1));
+        least.setFan(1);
+        least.pass(1);
+        Check.due("gasOf of the least size with air", 0, least.gasOf(1));
         MineHoist far = one(500, 50, 0);
         for (int i = 0; i < 80; i++) {
             far.pass(60);

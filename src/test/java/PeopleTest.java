@@ -63,6 +63,10 @@ final class PeopleTest {
         Check.due("peopleTotal in the trip up", 40, x.peopleTotal());
         x.pass(3);
         Check.due("peopleAt(0) after the trip up", 33, x.peopleAt(0));
+        x.sendDown(3, 6);
+        x.pass(5);
+        Check.due("peopleAt(3), the deepest level", 6, x.peopleAt(3));
+        Check.due("peopleTotal with people on the deepest level", 40, x.peopleTotal());
         x.blast(1, 20);
         x.hoistOre(1);
         x.pass(1);
@@ -148,6 +152,12 @@ final class PeopleTest {
         }
         Check.refused("blast(1, 1) of a closed level", IllegalStateException.class, Scenes::blasted,
                 m -> m.blast(1, 1));
+        Check.refused("blast(1, 1) with just one there", UnsupportedOperationException.class, () -> {
+            MineHoist x = Scenes.quiet();
+            x.sendDown(1, 1);
+            x.pass(2);
+            return x;
+        }, m -> m.blast(1, 1));
         Check.refused("blast(2, 1) with people there", UnsupportedOperationException.class, Scenes::peopleBelow,
                 m -> m.blast(2, 1));
         Check.refused("blast(1, 1), closed and with its ore in the cage", IllegalStateException.class, () -> {
