@@ -12,7 +12,8 @@ import java.util.TreeMap;
 final class RandomTest {
     private static final int RUNS = 1500;
     private static final int CALLS = 512;
-    private static final int[] FAR = {Integer.MIN_VALUE, -1000, -1, 0, 1, 2, 7, 8, 13, 61, 100, 1001, Integer.MAX_VALUE};
+    private static final int[] FAR = {Integer.MIN_VALUE, -1000, -1, 0, 1, 2, 7, 8, 13, 61, 100, 1001,
+        Integer.MAX_VALUE};
 
     private final Random random;
     private final List<Method> methods = new ArrayList<>();
