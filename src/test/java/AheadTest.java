@@ -101,6 +101,13 @@ final class AheadTest {
         }, m -> m.waitFor(1));
         Check.refused("waitFor one that the alarm will drop", UnsupportedOperationException.class,
                 Scenes::alarmed, m -> m.waitFor(1));
+        Check.refused("waitFor one down when nobody will be on the surface", UnsupportedOperationException.class,
+                AheadTest::nobodyIsLeft, m -> m.waitFor(1));
+        MineHoist left = nobodyIsLeft();
+        left.cancel(1);
+        left.callUp(1, 1);
+        left.sendDown(1, 2);
+        Check.due("waitFor one down when one will be back: 2 and 2 and 2", 6, left.waitFor(3));
         MineHoist y = Scenes.goingDown();
         y.callUp(2, 12);
         Check.due("waitFor one up from where somebody will be: 3 and 1 + 0 + 3", 7, y.waitFor(1));
@@ -111,6 +118,16 @@ final class AheadTest {
         z.sendDown(1, 1);
         z.blast(1, 1);
         Check.due("waitFor one to a level that is open by then: 32 and 1 + 31 + 10", 74, z.waitFor(1));
+    }
+
+    /** All 5 people want to go down, and then another one. */
+    private static MineHoist nobodyIsLeft() {
+        MineHoist x = new MineHoist();
+        x.addLevel(100, 100, 1, 0);
+        x.hire(5);
+        x.sendDown(1, 5);
+        x.sendDown(1, 1);
+        return x;
     }
 
     /** The first trip ends 30 minutes after the blast, so that the level is open for the second; or 29 after it. */

@@ -88,25 +88,25 @@ final class HoistTest {
         MineHoist x = Scenes.quiet();
         x.sendDown(3, 7);
         x.pass(1);
-        Check.due("trip down", "d 3 7 4", trip(x));
+        Check.due("trip down", "d 3 7 4", Snapshot.trip(x));
         x.pass(3);
-        Check.due("trip down, 3 minutes later", "d 3 7 1", trip(x));
+        Check.due("trip down, 3 minutes later", "d 3 7 1", Snapshot.trip(x));
         x.pass(1);
         Check.due("peopleAt(3) when it has ended", 7, x.peopleAt(3));
         x.callUp(3, 2);
         x.pass(1);
-        Check.due("trip up", "u 3 2 4", trip(x));
+        Check.due("trip up", "u 3 2 4", Snapshot.trip(x));
         x.pass(4);
         x.setLimit(1000);
         x.blast(2, 20);
         x.hoistOre(2);
         x.pass(1);
-        Check.due("trip of ore", "o 2 20 6", trip(x));
+        Check.due("trip of ore", "o 2 20 6", Snapshot.trip(x));
         x.pass(6);
         Check.due("oreAt(0) when it has ended", 20, x.oreAt(0));
         MineHoist y = Scenes.alarmed();
         y.pass(1);
-        Check.due("flight", "f 1 12 1", trip(y));
+        Check.due("flight", "f 1 12 1", Snapshot.trip(y));
     }
 
     private static void promises34To36Refused() {
@@ -130,26 +130,26 @@ final class HoistTest {
         x.sendDown(3, 5);
         x.pass(2);
         x.pass(1);
-        Check.due("from level 1 to the surface and to level 3: 1 + 1 + 4", "d 3 5 5", trip(x));
+        Check.due("from level 1 to the surface and to level 3: 1 + 1 + 4", "d 3 5 5", Snapshot.trip(x));
         x.pass(5);
         x.callUp(1, 5);
         x.pass(1);
-        Check.due("from level 3 to level 1 and to the surface: 1 + 3 + 1", "u 1 5 4", trip(x));
+        Check.due("from level 3 to level 1 and to the surface: 1 + 3 + 1", "u 1 5 4", Snapshot.trip(x));
         x.pass(4);
         x.setSpeed(110);
         x.callUp(3, 5);
         x.pass(1);
-        Check.due("from the surface to level 3 and back: 1 + 3 + 3", "u 3 5 6", trip(x));
+        Check.due("from the surface to level 3 and back: 1 + 3 + 3", "u 3 5 6", Snapshot.trip(x));
         MineHoist y = Scenes.peopleBelow();
         y.setSpeed(250);
         y.callUp(2, 1);
         y.pass(1);
-        Check.due("a way of just one minute", "u 2 1 1", trip(y));
+        Check.due("a way of just one minute", "u 2 1 1", Snapshot.trip(y));
         MineHoist z = Scenes.peopleBelow();
         z.setSpeed(249);
         z.callUp(2, 1);
         z.pass(1);
-        Check.due("a way of a metre more", "u 2 1 2", trip(z));
+        Check.due("a way of a metre more", "u 2 1 2", Snapshot.trip(z));
     }
 
     private static void promise37CageLevel() {
@@ -239,7 +239,7 @@ final class HoistTest {
     private static void flightsComeFirst() {
         MineHoist x = Scenes.alarmed();
         x.pass(1);
-        Check.due("flight before the request that waits", "f 1 12 1", trip(x));
+        Check.due("flight before the request that waits", "f 1 12 1", Snapshot.trip(x));
         Check.due("droppedCount in the flight", 0, x.droppedCount());
         Check.due("waitingCount in the flight", 1, x.waitingCount());
         x.pass(1);
@@ -252,7 +252,7 @@ final class HoistTest {
         y.blast(3, 20);
         y.pass(3);
         y.pass(1);
-        Check.due("no flight from a level where nobody is", "d 1 1 4", trip(y));
+        Check.due("no flight from a level where nobody is", "d 1 1 4", Snapshot.trip(y));
     }
 
     /** People on levels 1, 2 and 3 with the inflows, all of size 500, and the limit at 2 from then on. */
@@ -275,17 +275,17 @@ final class HoistTest {
     private static void flightsGoWhereTheShareIsGreatest() {
         MineHoist x = threeBelow(1, 3, 2);
         x.pass(1);
-        Check.due("flight from the greatest share", "f 2 2 2", trip(x));
+        Check.due("flight from the greatest share", "f 2 2 2", Snapshot.trip(x));
         x.pass(3);
-        Check.due("flight from the next one", "f 3 3 2", trip(x));
+        Check.due("flight from the next one", "f 3 3 2", Snapshot.trip(x));
         x.pass(3);
-        Check.due("flight from the last one", "f 1 1 2", trip(x));
+        Check.due("flight from the last one", "f 1 1 2", Snapshot.trip(x));
         MineHoist y = threeBelow(1, 2, 2);
         y.pass(1);
-        Check.due("flight from the highest of two with the same share", "f 2 2 2", trip(y));
+        Check.due("flight from the highest of two with the same share", "f 2 2 2", Snapshot.trip(y));
         MineHoist z = threeBelow(0, 0, 1);
         z.pass(1);
-        Check.due("flight from the one level with an alarm", "f 3 3 1", trip(z));
+        Check.due("flight from the one level with an alarm", "f 3 3 1", Snapshot.trip(z));
         MineHoist none = threeBelow(0, 0, 0);
         none.pass(1);
         Check.due("no flight without an alarm", '-', none.tripKind());
@@ -315,10 +315,10 @@ final class HoistTest {
         Check.due("peopleAt(1)", 20, x.peopleAt(1));
         x.setLimit(1);
         x.pass(1);
-        Check.due("flight of 12", "f 1 12 1", trip(x));
+        Check.due("flight of 12", "f 1 12 1", Snapshot.trip(x));
         Check.due("peopleAt(1) in the flight", 8, x.peopleAt(1));
         x.pass(2);
-        Check.due("flight of the others", "f 1 8 2", trip(x));
+        Check.due("flight of the others", "f 1 8 2", Snapshot.trip(x));
         x.pass(2);
         Check.due("peopleAt(0) after both", 30, x.peopleAt(0));
     }
@@ -330,13 +330,13 @@ final class HoistTest {
         x.hoistOre(1);
         x.sendDown(3, 1);
         x.pass(1);
-        Check.due("people before ore", "d 2 1 3", trip(x));
+        Check.due("people before ore", "d 2 1 3", Snapshot.trip(x));
         x.pass(4);
-        Check.due("the later people before ore", "d 3 1 7", trip(x));
+        Check.due("the later people before ore", "d 3 1 7", Snapshot.trip(x));
         x.pass(8);
-        Check.due("then ore", "o 1 20 4", trip(x));
+        Check.due("then ore", "o 1 20 4", Snapshot.trip(x));
         x.pass(5);
-        Check.due("then the last of the ore", "o 1 10 2", trip(x));
+        Check.due("then the last of the ore", "o 1 10 2", Snapshot.trip(x));
     }
 
     private static void requestsTakeWhatIsThere() {
@@ -345,20 +345,16 @@ final class HoistTest {
         x.hire(5);
         x.sendDown(1, 12);
         x.pass(1);
-        Check.due("a request down of more than are there", "d 1 5 1", trip(x));
+        Check.due("a request down of more than are there", "d 1 5 1", Snapshot.trip(x));
         x.pass(1);
         x.callUp(1, 6);
         x.pass(1);
-        Check.due("a request up of more than are there", "u 1 5 1", trip(x));
+        Check.due("a request up of more than are there", "u 1 5 1", Snapshot.trip(x));
         x.pass(1);
         x.sendDown(1, 3);
         x.pass(2);
         x.callUp(1, 2);
         x.pass(1);
-        Check.due("a request up of fewer than are there", "u 1 2 1", trip(x));
-    }
-
-    private static String trip(MineHoist x) {
-        return x.tripKind() + " " + x.tripLevel() + " " + x.tripLoad() + " " + x.tripRest();
+        Check.due("a request up of fewer than are there", "u 1 2 1", Snapshot.trip(x));
     }
 }

@@ -29,7 +29,8 @@ final class LevelsTest {
         Check.due("new: tripKind", '-', x.tripKind());
         Check.due("new: cageLevel", 0, x.cageLevel());
         Check.due("new: line", "", Snapshot.line(x));
-        Check.due("new: settings", "fan 100 limit 20 speed 100 doors", Snapshot.ofSettings(x));
+        Check.due("new: settings", "fan 100 limit 20 speed 100 doors next IndexOutOfBoundsException",
+                Snapshot.ofSettings(x));
         Check.due("new: pass(60) without levels", 60, x.pass(60));
         Check.due("new: gasTotal without levels", 0, x.gasTotal());
     }

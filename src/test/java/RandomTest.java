@@ -19,6 +19,8 @@ final class RandomTest {
     private final List<Method> methods = new ArrayList<>();
     private final Map<String, Method> others = new TreeMap<>();
     private final Map<String, Integer> seen = new TreeMap<>();
+    /** Whether the clock of the present run comes to its end. */
+    private boolean isLong;
 
     private RandomTest(long seed) throws ReflectiveOperationException {
         random = new Random(seed);
@@ -50,9 +52,10 @@ final class RandomTest {
         List<String> calls = new ArrayList<>();
         int levels = random.nextInt(7);
         boolean isCalm = random.nextBoolean();
+        isLong = run % 10 == 1;
         for (int i = 0; i < CALLS; i++) {
             Method method = chosen(i, levels, run);
-            Object[] arguments = arguments(method, mine, isCalm);
+            Object[] arguments = arguments(method, plain, isCalm);
             String got = answer(method, mine, arguments);
             String due = answer(others.get(method.getName()), plain, arguments);
             calls.add(method.getName() + Arrays.toString(arguments) + " -> " + got);
@@ -79,7 +82,7 @@ final class RandomTest {
             return named(new String[] {"hire", "setLimit", "setFan"}[call - levels]);
         }
         int roll = random.nextInt(10);
-        if (run % 3 == 0 && roll < 3 || roll < 1) {
+        if ((isLong || run % 3 == 0) && roll < 4 || roll < 1) {
             return named("pass");
         }
         if (roll < 6) {
@@ -98,7 +101,7 @@ final class RandomTest {
         throw new IllegalArgumentException(name);
     }
 
-    private Object[] arguments(Method method, MineHoist mine, boolean isCalm) {
+    private Object[] arguments(Method method, PlainMine mine, boolean isCalm) {
         Class<?>[] types = method.getParameterTypes();
         Object[] arguments = new Object[types.length];
         for (int i = 0; i < types.length; i++) {
@@ -112,7 +115,7 @@ final class RandomTest {
         return arguments;
     }
 
-    private int fitting(String name, int argument, MineHoist mine, boolean isCalm) {
+    private int fitting(String name, int argument, PlainMine mine, boolean isCalm) {
         int level = random.nextInt(mine.levelCount() + 1) + random.nextInt(2);
         switch (name) {
             case "addLevel":
@@ -129,7 +132,7 @@ final class RandomTest {
             case "hire":
                 return 1 + random.nextInt(isCalm ? 30 : 99);
             case "pass":
-                return 1 + random.nextInt(random.nextInt(4) == 0 ? 60 : 5);
+                return 1 + random.nextInt(isLong || random.nextInt(4) == 0 ? 60 : 5);
             case "waitingAt":
                 return random.nextInt(10);
             case "lineAt":

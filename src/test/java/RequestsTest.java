@@ -121,9 +121,9 @@ final class RequestsTest {
         Check.due("cancel(0)", 7, x.cancel(0));
         Check.due("cancel(7)", 6, x.cancel(7));
         Check.due("cancel(3)", 5, x.cancel(3));
-        Check.due("those that wait", "1 2 4 5 6", waiting(x));
+        Check.due("those that wait", "1 2 4 5 6", Snapshot.waiting(x));
         Check.due("the next number", 8, x.callUp(1, 1));
-        Check.due("those that wait then", "1 2 4 5 6 8", waiting(x));
+        Check.due("those that wait then", "1 2 4 5 6 8", Snapshot.waiting(x));
         Check.due("droppedCount after cancel", 0, x.droppedCount());
         for (int request : new int[] {-1, 8, 9, Integer.MIN_VALUE, Integer.MAX_VALUE}) {
             Check.refused("cancel(" + request + ")", NoSuchElementException.class, Scenes::crowded,
@@ -157,12 +157,12 @@ final class RequestsTest {
         x.hoistOre(1);
         x.callUp(1, 1);
         Check.due("waitingCount of 3", 3, x.waitingCount());
-        Check.due("those that wait, in their order", "0 1 2", waiting(x));
+        Check.due("those that wait, in their order", "0 1 2", Snapshot.waiting(x));
         x.pass(1);
         Check.due("waitingCount when one is taken", 2, x.waitingCount());
-        Check.due("those that wait when one is taken", "1 2", waiting(x));
+        Check.due("those that wait when one is taken", "1 2", Snapshot.waiting(x));
         x.pass(2);
-        Check.due("those that wait when two are taken", "1", waiting(x));
+        Check.due("those that wait when two are taken", "1", Snapshot.waiting(x));
         Check.due("waitingCount of 8", 8, Scenes.crowded().waitingCount());
         for (int position : new int[] {-1, 8, Integer.MIN_VALUE, Integer.MAX_VALUE}) {
             Check.refused("waitingAt(" + position + ")", IndexOutOfBoundsException.class, Scenes::crowded,
@@ -172,13 +172,5 @@ final class RequestsTest {
                 m -> m.waitingAt(0));
         Check.refused("waitingAt(0) when all are taken", IndexOutOfBoundsException.class, Scenes::goingDown,
                 m -> m.waitingAt(0));
-    }
-
-    private static String waiting(MineHoist x) {
-        StringBuilder text = new StringBuilder();
-        for (int position = 0; position < x.waitingCount(); position++) {
-            text.append(position > 0 ? " " : "").append(x.waitingAt(position));
-        }
-        return text.toString();
     }
 }

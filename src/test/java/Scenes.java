@@ -1,4 +1,7 @@
-/** Mines that several tests begin with. */
+/**
+ * Mines that several tests begin with. All but the empty one have "none" in their line, written before anything else
+ * happens, so that a call that should leave the line alone is found out.
+ */
 final class Scenes {
     private Scenes() {
     }
@@ -7,9 +10,15 @@ final class Scenes {
         return new MineHoist();
     }
 
+    private static MineHoist withLine() {
+        MineHoist x = new MineHoist();
+        x.writeTrip();
+        return x;
+    }
+
     /** Two levels with gas. */
     static MineHoist gassy() {
-        MineHoist x = new MineHoist();
+        MineHoist x = withLine();
         x.addLevel(100, 100, 3, 2);
         x.addLevel(250, 50, 1, 5);
         return x;
@@ -17,7 +26,7 @@ final class Scenes {
 
     /** Three levels without gas, and 40 people on the surface. */
     static MineHoist quiet() {
-        MineHoist x = new MineHoist();
+        MineHoist x = withLine();
         x.addLevel(100, 100, 3, 0);
         x.addLevel(250, 100, 2, 0);
         x.addLevel(310, 100, 1, 0);
@@ -26,7 +35,7 @@ final class Scenes {
     }
 
     static MineHoist six() {
-        MineHoist x = new MineHoist();
+        MineHoist x = withLine();
         for (int level = 1; level <= 6; level++) {
             x.addLevel(level * 100, 100, level, level);
         }
@@ -85,7 +94,7 @@ final class Scenes {
 
     /** 12 people and the cage on a level of 50 metres that has an alarm from the third minute on, after two. */
     static MineHoist alarmed() {
-        MineHoist x = new MineHoist();
+        MineHoist x = withLine();
         x.addLevel(50, 10, 1, 1);
         x.hire(30);
         x.setLimit(300);
@@ -93,6 +102,41 @@ final class Scenes {
         x.sendDown(1, 12);
         x.sendDown(1, 12);
         x.pass(2);
+        return x;
+    }
+
+    /** Levels of size 500 with these depths, without gas or fan; the people are on the surface. */
+    static MineHoist depths(int people, int... depths) {
+        MineHoist x = withLine();
+        for (int depth : depths) {
+            x.addLevel(depth, 500, 1, 0);
+        }
+        x.setFan(0);
+        if (people > 0) {
+            x.hire(people);
+        }
+        return x;
+    }
+
+    /** Sends people down to a level of at most 900 metres, 12 at a time. */
+    static void bring(MineHoist x, int level, int count) {
+        int before = x.peopleAt(level);
+        for (int rest = count; rest > 0; rest -= 12) {
+            x.sendDown(level, Math.min(rest, 12));
+            x.pass(20);
+        }
+        Check.due("people brought to level " + level, before + count, x.peopleAt(level));
+    }
+
+    /** 5 people on level 1, whose share is 100 in the minute that follows if the fan does not run. */
+    static MineHoist shareOfHundred() {
+        MineHoist x = withLine();
+        x.addLevel(100, 10, 1, 1);
+        x.setLimit(1000);
+        x.hire(5);
+        x.sendDown(1, 5);
+        x.pass(2);
+        x.setFan(0);
         return x;
     }
 }

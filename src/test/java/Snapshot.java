@@ -16,6 +16,7 @@ final class Snapshot {
         for (int level = 1; level <= levels; level++) {
             int number = level;
             text.append("\n").append(level).append(": air ").append(x.airOf(level));
+            text.append(' ').append(x.airByPaths(level));
             text.append(" gas ").append(x.gasOf(level)).append(" share ").append(x.gasShare(level));
             text.append(" alarm ").append(x.isAlarm(level)).append(" closed ").append(x.isClosed(level));
             text.append(" soon ").append(answer(() -> x.minutesToAlarm(number)));
@@ -39,6 +40,16 @@ final class Snapshot {
         text.append(' ').append(answer(x::tripRest)).append(" cage ").append(x.cageLevel());
         text.append(" done ").append(x.doneCount()).append(" dropped ").append(x.droppedCount());
         text.append(" consistent ").append(x.isConsistent());
+        appendPresentRequest(text, x);
+    }
+
+    /** No call tells the number of the request of the present trip, so it is searched for. */
+    private static void appendPresentRequest(StringBuilder text, MineHoist x) {
+        char kind = x.tripKind();
+        for (int number = 0; number < 20 && kind != '-' && kind != 'f'; number++) {
+            int request = number;
+            text.append(' ').append(answer(() -> x.waitFor(request)));
+        }
     }
 
     private static void appendLine(StringBuilder text, MineHoist x) {
@@ -66,6 +77,10 @@ final class Snapshot {
         for (int level = 1; level <= x.levelCount(); level++) {
             text.append(' ').append(x.setDoor(level, false));
         }
+        if (x.waitingCount() == 8) {
+            x.cancel(x.waitingAt(0));
+        }
+        text.append(" next ").append(answer(() -> x.hoistOre(1)));
         return text.toString();
     }
 
@@ -75,5 +90,22 @@ final class Snapshot {
         } catch (RuntimeException e) {
             return e.getClass().getSimpleName();
         }
+    }
+
+    /** The kind, the level, the load and the rest of the present trip, or just the kind of none. */
+    static String trip(MineHoist x) {
+        if (x.tripKind() == '-') {
+            return "-";
+        }
+        return x.tripKind() + " " + x.tripLevel() + " " + x.tripLoad() + " " + x.tripRest();
+    }
+
+    /** The numbers of the requests that wait, from the oldest one. */
+    static String waiting(MineHoist x) {
+        StringBuilder text = new StringBuilder();
+        for (int position = 0; position < x.waitingCount(); position++) {
+            text.append(position > 0 ? " " : "").append(x.waitingAt(position));
+        }
+        return text.toString();
     }
 }
