@@ -4,6 +4,9 @@ import java.util.NoSuchElementException;
 final class AheadTest {
     public static void main(String[] args) {
         promise40WaitFor();
+        promise40OfAllThatWait();
+        promise40CountsThoseInTheCage();
+        promise40CountsAFlight();
         promise40ComesTrue();
         promise40NoSuchRequest();
         promise40Dropped();
@@ -38,6 +41,43 @@ final class AheadTest {
         Check.due("waitFor behind no flight: 1 + 1 + 1", 3, z.waitFor(1));
     }
 
+    /** The first trip is 1 + 0 + 1 minutes, each one behind it 1 + 1 + 1. */
+    private static void promise40OfAllThatWait() {
+        MineHoist x = Scenes.crowded();
+        for (int request = 0; request < 8; request++) {
+            Check.due("waitFor(" + request + ") of 8", 2 + 3 * request, x.waitFor(request));
+        }
+        MineHoist y = Scenes.quiet();
+        for (int request = 0; request < 40; request++) {
+            y.sendDown(1, 1);
+            Check.due("waitFor(" + request + ") behind none", 2, y.waitFor(request));
+            y.cancel(request);
+        }
+    }
+
+    /** 5 people come to level 2 in 3 minutes; the trips up for 3 and 2 of them are 4 and 7 minutes. */
+    private static void promise40CountsThoseInTheCage() {
+        MineHoist x = Scenes.quiet();
+        x.sendDown(2, 5);
+        x.pass(1);
+        x.callUp(2, 3);
+        x.callUp(2, 2);
+        x.callUp(2, 1);
+        Check.due("waitFor the first up", 7, x.waitFor(1));
+        Check.due("waitFor the second up", 14, x.waitFor(2));
+        Check.due("waitFor the third up, when nobody is left", "UnsupportedOperationException",
+                Check.outcome(x, m -> m.waitFor(3)));
+    }
+
+    /** A flight from the deepest level of six in its third minute: 1 + 0 + 1, then 1 + 0 + 1 for the request. */
+    private static void promise40CountsAFlight() {
+        MineHoist x = Scenes.twoOnTheDeepest();
+        Check.due("waitFor behind a flight", 4, x.waitFor(1));
+        x.pass(1);
+        Check.due("the flight", "f 6 2 1", Snapshot.trip(x));
+        Check.due("waitFor in the flight", 3, x.waitFor(1));
+    }
+
     private static void promise40ComesTrue() {
         for (int request = 0; request < 4; request++) {
             MineHoist x = Scenes.blasted();
@@ -66,6 +106,15 @@ final class AheadTest {
             x.pass(1);
             return x;
         }, m -> m.waitFor(-1));
+        MineHoist flight = Scenes.alarmed();
+        flight.pass(1);
+        for (int request = 0; request < 60; request++) {
+            Check.due("waitFor(" + request + ") in a flight", request == 1 ? "UnsupportedOperationException"
+                    : "NoSuchElementException", outcomeOfWait(flight, request));
+        }
+        for (int request : new int[] {99, 100, 199, 200, 255, 256, 499, 500, 4999, 5000}) {
+            Check.due("waitFor(" + request + ") in a flight", "NoSuchElementException", outcomeOfWait(flight, request));
+        }
         Check.refused("waitFor a canceled one", NoSuchElementException.class, () -> {
             MineHoist x = Scenes.crowded();
             x.cancel(7);
@@ -79,6 +128,10 @@ final class AheadTest {
             x.pass(1);
             return x;
         }, m -> m.waitFor(0));
+    }
+
+    private static String outcomeOfWait(MineHoist x, int request) {
+        return Check.outcome(x, m -> m.waitFor(request));
     }
 
     private static void promise40Dropped() {
@@ -186,11 +239,11 @@ final class AheadTest {
         for (int i = 0; i < 5; i++) {
             Check.due("waitFor again and again", 2, x.waitFor(2));
         }
-        Check.due("the state after waitFor", Snapshot.of(y), Snapshot.of(x));
+        Check.same("what waitFor changes", Snapshot.facts(y), Snapshot.facts(x));
         x.pass(4);
         y.pass(4);
-        Check.due("the state 4 minutes after waitFor", Snapshot.of(y), Snapshot.of(x));
-        Check.due("the settings after waitFor", Snapshot.ofSettings(y), Snapshot.ofSettings(x));
+        Check.same("what waitFor changes 4 minutes later", Snapshot.facts(y), Snapshot.facts(x));
+        Check.same("the settings that waitFor changes", Snapshot.settings(y), Snapshot.settings(x));
     }
 
     private static void promise41IsConsistent() {

@@ -1,3 +1,4 @@
+import java.util.Map;
 import java.util.function.Consumer;
 import java.util.function.Supplier;
 
@@ -21,22 +22,38 @@ final class Check {
         due(what, "nothing thrown", outcome(mine, call));
     }
 
+    /** Each fact of the one mine is a fact of the other one, too. */
+    static void same(String what, Map<String, String> want, Map<String, String> got) {
+        due(what, "", Snapshot.difference(want, got));
+    }
+
     /** A refused call throws just this exception and changes nothing, now or for the minutes to come. */
     static void refused(String what, Class<? extends RuntimeException> want, Supplier<MineHoist> scene,
             Consumer<MineHoist> call) {
-        MineHoist untouched = scene.get();
         MineHoist asked = scene.get();
         due(what, want.getSimpleName(), outcome(asked, call));
-        due(what + ", the state after it", Snapshot.of(untouched), Snapshot.of(asked));
+        unchanged(what, scene.get(), asked);
+    }
+
+    /** A call that just tells something changes nothing, now or for the minutes to come. */
+    static void onlyTells(String what, Supplier<MineHoist> scene, Consumer<MineHoist> call) {
+        MineHoist asked = scene.get();
+        taken(what, asked, call);
+        unchanged(what, scene.get(), asked);
+    }
+
+    private static void unchanged(String what, MineHoist untouched, MineHoist asked) {
+        same(what + ", what it changes", Snapshot.facts(untouched), Snapshot.facts(asked));
         // What a blast has changed can be seen for 30 minutes, and some of it only when they are over.
         for (int minutes : new int[] {3, 28}) {
             if (untouched.clock() + minutes <= 5000) {
                 untouched.pass(minutes);
                 asked.pass(minutes);
-                due(what + ", the state in the minutes after it", Snapshot.of(untouched), Snapshot.of(asked));
+                same(what + ", what it changes in the minutes after it", Snapshot.facts(untouched),
+                        Snapshot.facts(asked));
             }
         }
-        due(what + ", the settings after it", Snapshot.ofSettings(untouched), Snapshot.ofSettings(asked));
+        same(what + ", the settings it changes", Snapshot.settings(untouched), Snapshot.settings(asked));
     }
 
     static String outcome(MineHoist mine, Consumer<MineHoist> call) {

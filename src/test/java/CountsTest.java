@@ -206,6 +206,12 @@ final class CountsTest {
         Check.due("the rest of a trip at 5000: 1 + 0 + 3, less a minute", 3, trip.tripRest());
         Check.due("pass(3) then", "IllegalStateException", Check.outcome(trip, m -> m.pass(3)));
         Check.due("the rest after it", 3, trip.tripRest());
+        Check.due("waitFor beyond 5000, a bound that is named for pass alone", 3, trip.waitFor(0));
+        MineHoist gas = Scenes.late(5000);
+        gas.setFan(0);
+        gas.setLimit(1000);
+        Check.due("gasOf(1) at 5000", 1, gas.gasOf(1));
+        Check.due("minutesToAlarm beyond 5000, for the same reason", 50, gas.minutesToAlarm(1));
     }
 
     /** 0 if there is an alarm now; refused if this is not so within 500 minutes. */

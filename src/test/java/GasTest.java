@@ -1,3 +1,4 @@
+import java.util.Map;
 import java.util.NoSuchElementException;
 
 /** Promises 9 to 16: gas. */
@@ -173,9 +174,9 @@ final class GasTest {
 
     private static void promise16LooksAheadOnly() {
         MineHoist x = Scenes.alarmed();
-        String before = Snapshot.of(x);
+        Map<String, String> before = Snapshot.facts(x);
         Check.due("minutesToAlarm(1)", 1, x.minutesToAlarm(1));
-        Check.due("the state after minutesToAlarm", before, Snapshot.of(x));
+        Check.same("what minutesToAlarm changes", before, Snapshot.facts(x));
         for (int limit : new int[] {20, 100, 300, 700}) {
             MineHoist y = Scenes.gassy();
             y.setFan(20);

@@ -35,7 +35,7 @@ final class HoistTest {
         for (int minute = 0; minute < 20; minute++) {
             often.pass(1);
         }
-        Check.due("20 minutes at once and one by one", Snapshot.of(often), Snapshot.of(once));
+        Check.same("20 minutes at once and one by one", Snapshot.facts(often), Snapshot.facts(once));
     }
 
     private static void promise31PassRefused() {

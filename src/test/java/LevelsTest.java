@@ -1,3 +1,5 @@
+import java.util.Map;
+
 /** Promises 1 to 8: levels and air. */
 final class LevelsTest {
     public static void main(String[] args) {
@@ -29,20 +31,20 @@ final class LevelsTest {
         Check.due("new: tripKind", '-', x.tripKind());
         Check.due("new: cageLevel", 0, x.cageLevel());
         Check.due("new: line", "", Snapshot.line(x));
-        Check.due("new: settings", "fan 100 limit 20 speed 100 doors next IndexOutOfBoundsException",
-                Snapshot.ofSettings(x));
+        Check.due("new: settings", "{fan=100, limit=20, speed=100, next request=IndexOutOfBoundsException}",
+                Snapshot.settings(x).toString());
         Check.due("new: pass(60) without levels", 60, x.pass(60));
         Check.due("new: gasTotal without levels", 0, x.gasTotal());
     }
 
     private static void promise1ObjectsAreApart() {
         MineHoist x = Scenes.quiet();
-        String before = Snapshot.of(x);
+        Map<String, String> before = Snapshot.facts(x);
         MineHoist y = Scenes.blasted();
         y.hoistOre(1);
         y.pass(10);
         y.writeTrip();
-        Check.due("the one mine after calls of another", before, Snapshot.of(x));
+        Check.same("the one mine after calls of another", before, Snapshot.facts(x));
     }
 
     private static void promise2AddLevel() {

@@ -88,6 +88,25 @@ final class PeopleTest {
         Check.due("endangered on two levels", 9, z.endangered());
         z.setLimit(30);
         Check.due("endangered on one of two levels", 5, z.endangered());
+        z.setLimit(1000);
+        z.callUp(1, 1);
+        z.pass(3);
+        z.setLimit(20);
+        Check.due("cageLevel then", 0, z.cageLevel());
+        Check.due("endangered with the cage on the surface", 8, z.endangered());
+        MineHoist full = new MineHoist();
+        full.addLevel(100, 1, 1, 50);
+        full.hire(13);
+        Scenes.bring(full, 1, 13);
+        full.setFan(0);
+        full.pass(1);
+        Check.due("the share where one is left by the flight", 50000, full.gasShare(1));
+        Check.due("endangered with a share of more than a thousand", 1, full.endangered());
+        MineHoist deepest = Scenes.twoOnTheDeepest();
+        Check.due("endangered on the deepest level", 2, deepest.endangered());
+        Check.due("peopleTotal then", 3, deepest.peopleTotal());
+        Check.due("isConsistent then", true, deepest.isConsistent());
+        Check.due("meanShare with a limit of 1", 4.0 / 6.0, deepest.meanShare());
     }
 
     /** 4 people on level 1 with a share of 20 and 5 on level 2 with one of 40, when the limit is 20. */

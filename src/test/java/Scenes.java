@@ -128,6 +128,22 @@ final class Scenes {
         Check.due("people brought to level " + level, before + count, x.peopleAt(level));
     }
 
+    /** 2 people and the cage on the deepest of six levels, the one with gas, at the clock 2; a request to level 1. */
+    static MineHoist twoOnTheDeepest() {
+        MineHoist x = withLine();
+        for (int level = 1; level <= 6; level++) {
+            x.addLevel(9 + level, 500, 1, level == 6 ? 1 : 0);
+        }
+        x.setFan(0);
+        x.setLimit(1000);
+        x.hire(3);
+        x.sendDown(6, 2);
+        x.sendDown(1, 1);
+        x.pass(2);
+        x.setLimit(1);
+        return x;
+    }
+
     /** 5 people on level 1, whose share is 100 in the minute that follows if the fan does not run. */
     static MineHoist shareOfHundred() {
         MineHoist x = withLine();

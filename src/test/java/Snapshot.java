@@ -1,59 +1,98 @@
+import java.util.LinkedHashMap;
+import java.util.Map;
+import java.util.Set;
+import java.util.TreeSet;
 import java.util.function.Supplier;
 
-/** All that the observers of a mine tell, as one text. */
+/** All that the observers of a mine tell. */
 final class Snapshot {
     private Snapshot() {
     }
 
-    static String of(MineHoist x) {
+    /** What has another answer now, as "call before > now", in the order of the calls' names; "?" stands for none. */
+    static String difference(Map<String, String> before, Map<String, String> now) {
+        Set<String> calls = new TreeSet<>(before.keySet());
+        calls.addAll(now.keySet());
         StringBuilder text = new StringBuilder();
-        int levels = x.levelCount();
-        text.append("levels ").append(levels);
-        for (int level = 0; level <= levels; level++) {
-            text.append("\n").append(level).append(':').append(x.depthOf(level));
-            text.append(" people ").append(x.peopleAt(level)).append(" ore ").append(x.oreAt(level));
+        for (String call : calls) {
+            String was = before.getOrDefault(call, "?");
+            String is = now.getOrDefault(call, "?");
+            if (!was.equals(is)) {
+                text.append(text.length() > 0 ? ", " : "").append(call);
+                text.append(' ').append(was).append(" > ").append(is);
+            }
         }
-        for (int level = 1; level <= levels; level++) {
-            int number = level;
-            text.append("\n").append(level).append(": air ").append(x.airOf(level));
-            text.append(' ').append(x.airByPaths(level));
-            text.append(" gas ").append(x.gasOf(level)).append(" share ").append(x.gasShare(level));
-            text.append(" alarm ").append(x.isAlarm(level)).append(" closed ").append(x.isClosed(level));
-            text.append(" soon ").append(answer(() -> x.minutesToAlarm(number)));
-        }
-        text.append("\ngas ").append(x.gasTotal()).append(' ').append(x.ventedTotal());
-        text.append(" mean ").append(answer(x::meanShare));
-        text.append(" people ").append(x.peopleTotal()).append(' ').append(x.endangered());
-        appendHoist(text, x);
-        appendLine(text, x);
         return text.toString();
     }
 
-    private static void appendHoist(StringBuilder text, MineHoist x) {
-        text.append("\nwaiting");
-        for (int position = 0; position < x.waitingCount(); position++) {
-            int number = x.waitingAt(position);
-            text.append(' ').append(number).append('(').append(answer(() -> x.waitFor(number))).append(')');
+    /** The call of each observer with its answer. */
+    static Map<String, String> facts(MineHoist x) {
+        Map<String, String> facts = new LinkedHashMap<>();
+        int levels = x.levelCount();
+        facts.put("levelCount", String.valueOf(levels));
+        for (int level = 0; level <= levels; level++) {
+            putPlace(facts, x, level);
         }
-        text.append(" clock ").append(x.clock()).append(" trip ").append(x.tripKind());
-        text.append(' ').append(answer(x::tripLevel)).append(' ').append(answer(x::tripLoad));
-        text.append(' ').append(answer(x::tripRest)).append(" cage ").append(x.cageLevel());
-        text.append(" done ").append(x.doneCount()).append(" dropped ").append(x.droppedCount());
-        text.append(" consistent ").append(x.isConsistent());
-        appendPresentRequest(text, x);
+        for (int level = 1; level <= levels; level++) {
+            putLevel(facts, x, level);
+        }
+        facts.put("gasTotal", String.valueOf(x.gasTotal()));
+        facts.put("ventedTotal", String.valueOf(x.ventedTotal()));
+        facts.put("meanShare", answer(x::meanShare));
+        facts.put("peopleTotal", String.valueOf(x.peopleTotal()));
+        facts.put("endangered", String.valueOf(x.endangered()));
+        putHoist(facts, x);
+        putWaits(facts, x);
+        facts.put("line", "'" + line(x) + "'");
+        return facts;
+    }
+
+    private static void putPlace(Map<String, String> facts, MineHoist x, int level) {
+        String of = "(" + level + ")";
+        facts.put("depthOf" + of, String.valueOf(x.depthOf(level)));
+        facts.put("peopleAt" + of, String.valueOf(x.peopleAt(level)));
+        facts.put("oreAt" + of, String.valueOf(x.oreAt(level)));
+    }
+
+    private static void putLevel(Map<String, String> facts, MineHoist x, int level) {
+        String of = "(" + level + ")";
+        facts.put("airOf" + of, String.valueOf(x.airOf(level)));
+        facts.put("airByPaths" + of, String.valueOf(x.airByPaths(level)));
+        facts.put("gasOf" + of, String.valueOf(x.gasOf(level)));
+        facts.put("gasShare" + of, String.valueOf(x.gasShare(level)));
+        facts.put("isAlarm" + of, String.valueOf(x.isAlarm(level)));
+        facts.put("isClosed" + of, String.valueOf(x.isClosed(level)));
+        facts.put("minutesToAlarm" + of, answer(() -> x.minutesToAlarm(level)));
+    }
+
+    private static void putHoist(Map<String, String> facts, MineHoist x) {
+        facts.put("waitingCount", String.valueOf(x.waitingCount()));
+        facts.put("waiting", waiting(x));
+        facts.put("clock", String.valueOf(x.clock()));
+        facts.put("tripKind", String.valueOf(x.tripKind()));
+        facts.put("tripLevel", answer(x::tripLevel));
+        facts.put("tripLoad", answer(x::tripLoad));
+        facts.put("tripRest", answer(x::tripRest));
+        facts.put("cageLevel", String.valueOf(x.cageLevel()));
+        facts.put("doneCount", String.valueOf(x.doneCount()));
+        facts.put("droppedCount", String.valueOf(x.droppedCount()));
+        facts.put("isConsistent", String.valueOf(x.isConsistent()));
     }
 
     /** No call tells the number of the request of the present trip, so it is searched for. */
-    private static void appendPresentRequest(StringBuilder text, MineHoist x) {
-        char kind = x.tripKind();
-        for (int number = 0; number < 20 && kind != '-' && kind != 'f'; number++) {
-            int request = number;
-            text.append(' ').append(answer(() -> x.waitFor(request)));
+    private static void putWaits(Map<String, String> facts, MineHoist x) {
+        for (int position = 0; position < x.waitingCount(); position++) {
+            int number = x.waitingAt(position);
+            facts.put("waitFor(" + number + ")", answer(() -> x.waitFor(number)));
         }
-    }
-
-    private static void appendLine(StringBuilder text, MineHoist x) {
-        text.append("\nline '").append(line(x)).append("'");
+        boolean isForRequest = x.tripKind() != '-' && x.tripKind() != 'f';
+        for (int number = 0; number < 20 && isForRequest; number++) {
+            int request = number;
+            String answer = answer(() -> x.waitFor(request));
+            if (!answer.equals("NoSuchElementException")) {
+                facts.put("waitFor(" + number + ")", answer);
+            }
+        }
     }
 
     /** The line, read to the first index that is refused. */
@@ -70,18 +109,19 @@ final class Snapshot {
     }
 
     /** What can be seen only by setting it anew, so it comes last. */
-    static String ofSettings(MineHoist x) {
-        StringBuilder text = new StringBuilder();
-        text.append("fan ").append(x.setFan(0)).append(" limit ").append(x.setLimit(1));
-        text.append(" speed ").append(x.setSpeed(10)).append(" doors");
+    static Map<String, String> settings(MineHoist x) {
+        Map<String, String> settings = new LinkedHashMap<>();
+        settings.put("fan", String.valueOf(x.setFan(0)));
+        settings.put("limit", String.valueOf(x.setLimit(1)));
+        settings.put("speed", String.valueOf(x.setSpeed(10)));
         for (int level = 1; level <= x.levelCount(); level++) {
-            text.append(' ').append(x.setDoor(level, false));
+            settings.put("door " + level, String.valueOf(x.setDoor(level, false)));
         }
         if (x.waitingCount() == 8) {
             x.cancel(x.waitingAt(0));
         }
-        text.append(" next ").append(answer(() -> x.hoistOre(1)));
-        return text.toString();
+        settings.put("next request", answer(() -> x.hoistOre(1)));
+        return settings;
     }
 
     private static String answer(Supplier<Object> call) {

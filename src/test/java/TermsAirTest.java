@@ -8,6 +8,7 @@ final class TermsAirTest {
         airAtAClosedDoor();
         airWithoutDeeperOpenDoors();
         airWithAllDoorsClosed();
+        airOfAnUneasyMine();
         airOfLevelsAddedOneByOne();
         gasShareRoundedDown();
         alarmAtTheLimit();
@@ -153,6 +154,16 @@ final class TermsAirTest {
         gassy.pass(2);
         Check.due("gas behind a closed door", 6, gassy.gasOf(1));
         Check.due("ventedTotal behind a closed door", 0, gassy.ventedTotal());
+    }
+
+    /** Neither the limit nor anything else but the fan, the widths and the doors has a say in the air. */
+    private static void airOfAnUneasyMine() {
+        MineHoist x = Scenes.twoOnTheDeepest();
+        air("with the least limit and people on the deepest level", x, 100, 16, 16, 17, 17, 17, 17);
+        x.setDoor(6, false);
+        air("with the deepest door closed then", x, 100, 20, 20, 20, 20, 20, 0);
+        x.blast(5, 20);
+        air("after a blast then", x, 9, 1, 2, 2, 2, 2, 0);
     }
 
     /** The door of a new level is open: it has air at once, and the levels above have less. */

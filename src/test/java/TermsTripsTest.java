@@ -270,6 +270,28 @@ final class TermsTripsTest {
         x.pass(1);
         Check.due("the first minute of the second: 1 + 1 + 1, less it", "d 1 1 2", Snapshot.trip(x));
         Check.due("none waits then", "", Snapshot.waiting(x));
+        MineHoist flights = new MineHoist();
+        flights.addLevel(100, 500, 1, 1);
+        flights.setFan(0);
+        flights.setLimit(1000);
+        flights.hire(13);
+        Scenes.bring(flights, 1, 13);
+        flights.setLimit(1);
+        flights.pass(2);
+        Check.due("the last minute of a flight, one is left", "-", Snapshot.trip(flights));
+        Check.due("the one who is left waits in it", 1, flights.peopleAt(1));
+        flights.pass(1);
+        Check.due("the first minute of the second flight", "f 1 1 2", Snapshot.trip(flights));
+        MineHoist ore = Scenes.depths(0, 100);
+        ore.setLimit(1000);
+        ore.blast(1, 10);
+        ore.hoistOre(1);
+        ore.hoistOre(1);
+        ore.pass(3);
+        Check.due("the last minute of a trip of ore", "-", Snapshot.trip(ore));
+        Check.due("the other ore waits in it", 10, ore.oreAt(1));
+        ore.pass(1);
+        Check.due("the first minute of the second trip of ore", "o 1 10 2", Snapshot.trip(ore));
     }
 
     /** A level is closed for 30 minutes after a blast, until the clock is what it was at the blast plus 30. */
