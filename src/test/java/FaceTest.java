@@ -60,6 +60,10 @@ final class FaceTest {
         "char lineAt(int)" + INDEX,
     };
 
+    /** What a constant may be, but for those of an enum, of which there is none. */
+    private static final Set<Class<?>> CONSTANTS = Set.of(int.class, long.class, boolean.class, char.class,
+            String.class, int[].class, long[].class, char[].class, byte[].class);
+
     public static void main(String[] args) {
         Class<?> face = MineHoist.class;
         Set<String> names = new TreeSet<>();
@@ -91,6 +95,7 @@ final class FaceTest {
         for (Field field : type.getDeclaredFields()) {
             boolean isStatic = Modifier.isStatic(field.getModifiers());
             Check.due(field + " is final or of an object", true, !isStatic || Modifier.isFinal(field.getModifiers()));
+            Check.due("the type of " + field + " is listed", true, isListed(field.getType(), isStatic));
             fields += isStatic ? 0 : 1;
         }
         Check.due("at most 20 fields in " + type, true, fields <= 20);
@@ -101,6 +106,15 @@ final class FaceTest {
         Stream<Executable> all = Stream.concat(Arrays.stream(type.getDeclaredMethods()),
                 Arrays.stream(type.getDeclaredConstructors()));
         Check.due("at most 7 parameters in " + type, true, all.allMatch(e -> e.getParameterCount() <= 7));
+    }
+
+    private static boolean isListed(Class<?> type, boolean isStatic) {
+        if (isStatic) {
+            return CONSTANTS.contains(type);
+        }
+        Class<?> part = type.isArray() ? type.getComponentType() : type;
+        boolean isOwn = part.getName().startsWith("MineHoist");
+        return part.isPrimitive() || isOwn || type == String.class || type == StringBuilder.class;
     }
 
     private static String described(Method method) {

@@ -18,6 +18,12 @@ final class LanguageTest {
             "IndexOutOfBoundsException", "ArithmeticException", "UnsupportedOperationException",
             "NoSuchElementException");
 
+    /** All that the program may name: its own classes, and what rules 3, 4 and 6 list of the library. */
+    private static final Set<String> NAMED = Set.of("MineHoist", "Mine", "Level", "Request", "Waiting", "Trip",
+            "String", "StringBuilder", "Math", "IllegalStateException", "IllegalArgumentException",
+            "IndexOutOfBoundsException", "ArithmeticException", "UnsupportedOperationException",
+            "NoSuchElementException");
+
     public static void main(String[] args) throws IOException {
         if (args.length == 0) {
             System.out.println("LanguageTest wants the path of the program");
@@ -30,6 +36,9 @@ final class LanguageTest {
             Check.due("'" + pattern + "' is in the code", false, Pattern.compile(pattern).matcher(code).find());
         }
         Check.due("the imports", Set.of("java.util.NoSuchElementException"), found(code, "import ([^;]+);"));
+        Set<String> named = found(code.replaceAll("\"[^\"]*\"", ""), "\\b([A-Z]\\w*[a-z]\\w*)");
+        named.removeAll(NAMED);
+        Check.due("what is named and not listed", Set.of(), named);
         Check.due("what is thrown is listed", true, THROWN.containsAll(found(code, "\\bthrow new (\\w+)\\(")));
         Check.due("each throw makes what it throws", count(code, "\\bthrow\\b"), count(code, "\\bthrow new \\w+\\(\""));
         methodsAreShort(code);
